@@ -651,7 +651,9 @@ public final class PennyPlanks {
       for (int far = 1; far < ISLANDS; far++) {
         int first = delta.lowestInto(near, here, usable);
         if (first != NONE) return first;
-        near = delta.widened(near, usable);
+        int wider = delta.widened(near, usable);
+        if (wider == near) return NONE;
+        near = wider;
       }
       return NONE;
     }
