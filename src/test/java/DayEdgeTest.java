@@ -21,6 +21,7 @@ public final class DayEdgeTest {
     childOnEvenDays();
     thiefTakesWhatThereIs();
     thiefComesByTurn();
+    thievesTogether();
     boundForTheOther();
     putAtMost();
     putBesideGifts();
@@ -273,6 +274,21 @@ public final class DayEdgeTest {
     all(Check.laid("i2;d9;b0,1,40;" + thief + giver + thief), 1, 0, 0, 4, 3);
     all(Check.laid("i2;d9;b0,1,40;" + giver + thief + thief), 1, 0, 0, 4, 4);
     all(Check.laid("i2;d9;b0,1,40;" + giver + thief + giver + thief), 1, 0, 0, 8, 6);
+  }
+
+  private static void thievesTogether() {
+    check.sentence("less those stolen from it on that day");
+    String delta = "i2;d1;b0,1,9;g0,1,1,10,0;";
+    String[] thieves = {"g0,1,1,3,3;", "g0,1,1,4,3;", "g0,1,1,20,3;"};
+    int[] left = {10, 7, 3, 0};
+    for (int many = 0; many <= thieves.length; many++) {
+      PennyPlanks x = Check.laid(delta);
+      check.due("stolen by " + many, x.all(1, STOLEN), 10 - left[many]);
+      x.days(1);
+      check.due("planks behind " + many, x.bridge(0, 5), left[many]);
+      check.due("shown behind " + many, x.bridge(0, 6), 10);
+      if (many < thieves.length) delta += thieves[many];
+    }
   }
 
   private static void boundForTheOther() {

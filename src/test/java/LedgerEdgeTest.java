@@ -25,6 +25,7 @@ public final class LedgerEdgeTest {
     draws();
     boxesByDraws();
     aheadOfTheDay();
+    drawsBesideWhatWasPut();
     fellInAYear();
     twoKept();
     keptButTheLedger();
@@ -327,8 +328,18 @@ public final class LedgerEdgeTest {
     x.days(39);
     check.due("on day 99", x.year(0, 1, 0), 1);
     check.due("on day 100", x.year(0, 2, 0), 1);
-    x.put(0, 99);
-    check.due("beside what was put", x.year(0, 2, 0), 1);
+  }
+
+  private static void drawsBesideWhatWasPut() {
+    check.sentence("DRAW modulo 10 pence are put in BOX");
+    for (int z : YEARS) {
+      int both = 20 + draw(z, 0) % 10;
+      for (int w = both - 1; w <= both + 1; w++) {
+        PennyPlanks x = Check.laid("i2;d1;b0,1,0;g0,1," + w + ",0,0;");
+        x.put(0, 20);
+        check.due(w + " on 20 and a draw by " + z, x.year(z, 2, 0), w <= both ? 1 : 2);
+      }
+    }
   }
 
   private static void fellInAYear() {

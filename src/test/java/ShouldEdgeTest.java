@@ -17,6 +17,7 @@ public final class ShouldEdgeTest {
     delayOfSeveralTheLowest();
     watchOfSeveralTheLowest();
     watchBesideGuards();
+    watchThoughGuardsDoHarm();
     sentWhatItLacks();
     sentFirstInDelayDays();
     sentOneADay();
@@ -181,6 +182,21 @@ public final class ShouldEdgeTest {
     x.guard(1, true);
     check.due("both are", x.watch(60), 0);
     check.due("guards stay", x.bridge(0, 4) + x.bridge(1, 4), 2);
+  }
+
+  private static void watchThoughGuardsDoHarm() {
+    check.sentence("WATCH: the BOX such that, were it GUARDED from now on");
+    // Who is kept from falling goes on, steals or gives elsewhere, and others fall by it.
+    PennyPlanks x = Check.laid(
+        "i4;d6;b3,1,48;b0,1,34;g1,0,17,15,4;g1,3,4,6,4;g0,3,1,7,2;g0,3,1,13,3;");
+    check.due("fall if none is guarded", x.all(17, 1), 2);
+    for (int b = 0; b < 2; b++) {
+      x.guard(b, true);
+      check.due("fall if " + b + " is guarded", x.all(17, 1), 3);
+      x.undo();
+    }
+    check.due("a box all the same", x.watch(17), 0);
+    check.due("in the longest time as well", x.watch(60), 0);
   }
 
   private static void sent(PennyPlanks x, int a, int b, int w, int pence, int bridges) {

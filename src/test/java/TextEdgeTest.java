@@ -13,6 +13,7 @@ public final class TextEdgeTest {
     cutByTheLimit();
     lettersOfAscii();
     oneOrTwoFigures();
+    figuresAlone();
     partedAndEnded();
     lettersOfItems();
     islandsTold();
@@ -116,8 +117,18 @@ public final class TextEdgeTest {
         numbers[k] = one;
       }
     }
-    // The signs beside the figures in ASCII.
-    for (String sign : new String[] {"/", ":"}) faultOf("d" + sign + ";", 0);
+  }
+
+  private static void figuresAlone() {
+    check.sentence("each a letter, then numbers (one or two figures)");
+    // P can be any number, so only the sign itself can be at fault.
+    for (char sign = 32; sign <= 126; sign++) {
+      boolean figure = sign >= '0' && sign <= '9';
+      faultIf(!figure, "b0,1," + sign + ";", 0);
+      faultIf(!figure, "b0,1," + sign + "1;", 0);
+      // A ; ends the item well, and the next one is not so.
+      faultIf(!figure, "b0,1,1" + sign + ";", sign == ';' ? 7 : 0);
+    }
   }
 
   private static void partedAndEnded() {
